@@ -270,7 +270,7 @@ public final class ElmKite {
             return what == 0 ? 1000 * now.inAll(elm) : NEXT_STOP;
         }
         draws.planner.look(elm, now);
-        int plan = draws.planner.plan(elm, tries, now.strung(), now.tight, now.hand);
+        int plan = draws.planner.best(elm, now, tries);
         return what == 0 ? Planner.thousandths(plan) : Planner.first(plan);
     }
 
@@ -682,25 +682,31 @@ public final class ElmKite {
         private int size;
         private int top;
 
-        void begin(boolean isTold) {
-            told = isTold;
+        void forget() {
+            told = false;
             size = 0;
         }
 
+        void readFrom(Tokens tokens) {
+            told = true;
+            size = 0;
+            readRank(tokens, RANK_JOINS, 0);
+        }
+
         /** Reads what binds as a rank does: the lower it is, the looser. */
-        void read(Tokens tokens, int rank, int depth) {
+        private void readRank(Tokens tokens, int rank, int depth) {
             if (rank >= RANK_PARTS) {
                 readPart(tokens, depth);
                 return;
             }
-            read(tokens, rank + 1, depth);
+            readRank(tokens, rank + 1, depth);
             for (int i = 0; i < LONGEST_TAPE && tokens.fine(); i++) {
                 int operation = operation(tokens.kind, rank);
                 if (operation == 0) {
                     return;
                 }
                 tokens.take();
-                read(tokens, rank + 1, depth);
+                readRank(tokens, rank + 1, depth);
                 emit(operation);
                 if (rank == RANK_COMPARES) {
                     return;
@@ -719,13 +725,18 @@ public final class ElmKite {
             } else if (tokens.is(NUMBER)) {
                 emit(tokens.number);
                 tokens.take();
-            } else if (tokens.took(WORD_NOT)) {
+            } else if (tokens.is(WORD_NOT)) {
+                tokens.take();
                 readPart(tokens, depth + 1);
                 emit(IS_NOT);
             } else {
                 tokens.take();
-                read(tokens, RANK_JOINS, depth + 1);
-                tokens.expect(SIGN + ')');
+                readRank(tokens, RANK_JOINS, depth + 1);
+                if (tokens.is(SIGN + ')')) {
+                    tokens.take();
+                } else {
+                    tokens.wrong(CANT_STAND);
+                }
             }
         }
 
@@ -802,8 +813,8 @@ public final class ElmKite {
 
         int read(Tokens tokens, Tree tree) {
             tree.clear();
-            run.begin(false);
-            tear.begin(false);
+            run.forget();
+            tear.forget();
             toldOnce = 0;
             tokens.open();
             for (int i = 0; i < LONGEST_TAPE && tokens.fine() && !tokens.is(END); i++) {
@@ -832,8 +843,8 @@ public final class ElmKite {
                 case WORD_WIND: readWind(tokens, tree); break;
                 case WORD_LADDER: readLadder(tokens, tree); break;
                 case WORD_ELM: readElm(tokens, tree); break;
-                case WORD_RUN: readLaw(tokens, run); break;
-                case WORD_TEAR: readLaw(tokens, tear); break;
+                case WORD_RUN: run.readFrom(tokens); break;
+                case WORD_TEAR: tear.readFrom(tokens); break;
                 case WORD_LIFT: tree.say(LIFT, tokens.takenNumber(0, 10)); break;
                 case WORD_DEW: tree.say(DEW, tokens.takenNumber(0, 9)); break;
                 case WORD_WEIGHS: tree.say(WEIGHS, tokens.takenNumber(1, 99)); break;
@@ -960,11 +971,6 @@ public final class ElmKite {
                 tree.elms.plant(x, y);
                 tokens.take();
             }
-        }
-
-        private static void readLaw(Tokens tokens, Law law) {
-            law.begin(true);
-            law.read(tokens, Law.RANK_JOINS, 0);
         }
 
         private static long newName(Tokens tokens, Tree tree) {
@@ -1821,8 +1827,13 @@ public final class ElmKite {
             return plan % 16;
         }
 
+        /** The plan for a kite that is up. */
+        int best(Tree tree, Now stands, int tries) {
+            return plan(tree, tries, stands.strung(), stands.tight, stands.hand);
+        }
+
         /** The greatest mean in thousandths, times 16, and the try that it begins with. */
-        int plan(Tree tree, int tries, int left, int tight, int hand) {
+        private int plan(Tree tree, int tries, int left, int tight, int hand) {
             int best = 1000 * (tree.handWorth(hand) + (left > 0 ? 0 : kiteWorth));
             int option = NEXT_STOP;
             if (tries <= 0 || left <= 0) {
@@ -1928,11 +1939,12 @@ public final class ElmKite {
                 scratch.restore(now.held());
                 int option = NEXT_STOP + 1;
                 for (int yet = tries; yet > 0 && scratch.kite == UP && option != NEXT_STOP; yet--) {
-                    int plan = planner.plan(tree, yet, scratch.strung(), scratch.tight, scratch.hand);
-                    option = Planner.first(plan);
+                    option = Planner.first(planner.best(tree, scratch, yet));
                     playTry(tree, option);
                 }
                 inAll += scratch.inAll(tree);
+                torn += scratch.kite == TORN ? 1 : 0;
+                stuck += tree.things - Integer.bitCount(scratch.hand);
             }
         }
 
@@ -1958,7 +1970,6 @@ public final class ElmKite {
                 end = RUNS;
             } else if (belowTen() < tear) {
                 end = TEARS;
-                torn++;
             }
             scratch.pulled(tree, side, hard, end);
         }
@@ -1969,7 +1980,6 @@ public final class ElmKite {
             int end = COMES_DOWN;
             if (drawn < sticks) {
                 end = STICKS;
-                stuck++;
             } else if (drawn < sticks + at(tree.frees, thing)) {
                 end = FREES;
             }
