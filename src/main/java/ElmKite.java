@@ -1920,7 +1920,7 @@ public final class ElmKite {
         }
     }
 
-    /** AFTERNOONS by DRAWS, and what they need. */
+    /** AFTERNOONS by DRAWS, and what they need: what tore or stuck ahead of them doesn't count. */
     private static final class Draws {
         final Planner planner = new Planner();
         final Now scratch = new Now();
@@ -1943,8 +1943,6 @@ public final class ElmKite {
                     playTry(tree, option);
                 }
                 inAll += scratch.inAll(tree);
-                torn += scratch.kite == TORN ? 1 : 0;
-                stuck += tree.things - Integer.bitCount(scratch.hand);
             }
         }
 
@@ -1970,6 +1968,7 @@ public final class ElmKite {
                 end = RUNS;
             } else if (belowTen() < tear) {
                 end = TEARS;
+                torn++;
             }
             scratch.pulled(tree, side, hard, end);
         }
@@ -1980,6 +1979,7 @@ public final class ElmKite {
             int end = COMES_DOWN;
             if (drawn < sticks) {
                 end = STICKS;
+                stuck++;
             } else if (drawn < sticks + at(tree.frees, thing)) {
                 end = FREES;
             }

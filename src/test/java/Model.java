@@ -977,8 +977,8 @@ final class Model {
                 s = drawn(s, option);
             }
             sums[0] += worthOf(s);
-            sums[1] += truth(s.kite.equals("torn"));
-            sums[2] += tree.things.size() - s.hand.size();
+            sums[1] += truth(s.kite.equals("torn") && !now.kite.equals("torn"));
+            sums[2] += now.hand.size() - s.hand.size();
         }
         return sums[what];
     }

@@ -46,6 +46,7 @@ public final class PromisesTest {
         nearest();
         came();
         afternoons();
+        afternoonsBehindTries();
         afternoonsByHand();
         mark();
         count();
@@ -894,7 +895,37 @@ public final class PromisesTest {
         due("what -1", x.afternoons(5, 2, 3, -1), -1);
         x.pull(2, true, 2);
         due("torn: worth", x.afternoons(5, 3, 3, 0), 96);
-        due("torn ones", x.afternoons(5, 3, 3, 1), 3);
+        due("torn ahead: none tears", x.afternoons(5, 3, 3, 1), 0);
+        due("torn ahead: nothing sticks", x.afternoons(5, 3, 3, 2), 0);
+    }
+
+    /** What stuck or tore by hand ahead of the afternoons is none of theirs. */
+    private static void afternoonsBehindTries() {
+        ElmKite x = told(UP);
+        x.hurl(0, 1);
+        due("to stop is the first: worth", x.afternoons(0, 1, 1, 0), x.worth());
+        due("to stop is the first: stuck", x.afternoons(0, 1, 1, 2), 0);
+        due("stuck ahead, 20 times", x.afternoons(3, 20, 6, 2), 0);
+        String one = "twig a high 9 thick 7 side east ; string a ; kite worth 100 paper 1 ; run 0 ; ";
+        x = told(one + "thing p worth 3 stuck 10 frees 0 ; thing q worth 1 stuck 4 frees 3 ;");
+        int all = x.afternoons(9, 20, 4, 2);
+        due("some stick", all > 0, true);
+        x.hurl(0, 1);
+        due("the other one sticks as often", x.afternoons(9, 20, 4, 2), all);
+        due("all is as ahead", x.thing(1, 3), 1);
+        x.hurl(1, 1);
+        due("both are up there", x.afternoons(9, 20, 4, 2), 0);
+        x.undo();
+        due("it is in the hand again", x.afternoons(9, 20, 4, 2), all);
+        x.pull(0, true, 2);
+        due("torn ahead: none sticks", x.afternoons(9, 20, 4, 2), 0);
+        due("torn ahead: none tears", x.afternoons(9, 20, 4, 1), 0);
+        due("torn ahead: worth", x.afternoons(9, 20, 4, 0), 20);
+        x.undo();
+        x.hurl(1, 2);
+        due("down ahead: none sticks", x.afternoons(9, 20, 4, 2), 0);
+        due("down ahead: none tears", x.afternoons(9, 20, 4, 1), 0);
+        due("down ahead: worth", x.afternoons(9, 20, 4, 0), 20 * 101);
     }
 
     /** The draws one by one, by the document's words. */
