@@ -66,17 +66,12 @@ public final class PromisesTest {
         return Feeding.told(text);
     }
 
-    /** A TREE with its first FAULT marked by ^ ahead of the token. */
     private static void fault(int kind, String marked) {
-        int place = marked.indexOf('^');
-        String text = marked.substring(0, place) + marked.substring(place + 1);
-        due("tree() of " + marked, Feeding.tree(new ElmKite(), text), kind + 16L * place);
+        CHECKS.treeFault(kind, marked);
     }
 
     private static void dayFault(int kind, String marked) {
-        int place = marked.indexOf('^');
-        String text = marked.substring(0, place) + marked.substring(place + 1);
-        due("afternoon() of " + marked, Feeding.afternoon(told(UP), text), kind + 16L * place);
+        CHECKS.dayFault(UP, kind, marked);
     }
 
     private static void newObject() {
