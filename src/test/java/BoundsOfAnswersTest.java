@@ -20,6 +20,8 @@ public final class BoundsOfAnswersTest {
         nextThousandths();
         nextCutAtEachTry();
         nextPulls();
+        nextPullsHard();
+        nextPullsTear();
         nextSlack();
         nextLift();
         nextHurl();
@@ -48,9 +50,12 @@ public final class BoundsOfAnswersTest {
         cells();
         nearest();
         came();
+        cameOfThisTree();
         cameByWhatIsOver();
         draws();
         drawsOfPulls();
+        drawsOfHardPulls();
+        drawsBehindSlack();
         drawsOfThrows();
         afternoonsAsManyAsTold();
         afternoonsNoneMore();
@@ -177,6 +182,52 @@ public final class BoundsOfAnswersTest {
         next(x, 2, 99000, 1);
     }
 
+    private static void nextPullsHard() {
+        of("hard likewise");
+        // 2 tighter by a hard one, 1 by a soft one, 9 at most.
+        for (int tight = 0; tight <= 9; tight++) {
+            ElmKite one = told(ONE + "run (tight = " + Math.min(9, tight + 1) + ") * 8 ; tear 0 ;");
+            ElmKite two = told(ONE + "run (tight = " + Math.min(9, tight + 2) + ") * 8 ; tear 0 ;");
+            for (int i = 0; i < tight; i++) {
+                one.pull(0, false, BITES);
+                two.pull(0, false, BITES);
+            }
+            next(one, 1, tight == 9 ? 80000 : 0, tight == 9 ? 1 : 0);
+            next(one, 2, tight == 9 ? 96000 : 80000, 1);
+            next(two, 1, tight == 9 ? 80000 : 0, tight == 9 ? 1 : 0);
+            next(two, 2, tight == 9 ? 96000 : 80000, tight < 8 ? 5 : 1);
+        }
+    }
+
+    private static void nextPullsTear() {
+        of("the greatest mean of what is WORTH in all");
+        String text = ONE + "thing p worth 10 stuck 0 frees 0 ; ";
+        // .3 down, of the rest tear torn: the THING is in the hand however it ends.
+        next(told(text + "run 3 ; tear 0 ;"), 1, 40000, 1);
+        next(told(text + "run 3 ; tear 1 ;"), 1, 40000, 1);
+        next(told(text + "run 3 ; tear 10 ;"), 1, 40000, 1);
+        next(told(text + "run 3 ; tear 0 ;"), 2, 61000, 1);
+        next(told(text + "run 3 ; tear 1 ;"), 2, 58900, 1);
+        next(told(text + "run 3 ; tear 5 ;"), 2, 50500, 1);
+        next(told(text + "run 3 ; tear 9 ;"), 2, 42100, 1);
+        next(told(text + "run 3 ; tear 10 ;"), 2, 40000, 1);
+        next(told(text + "run 0 ; tear 10 ;"), 6, 10000, 0);
+        next(told(text + "run 10 ; tear 10 ;"), 1, 110000, 1);
+        // A twig less, tight or not: the next one is loose.
+        ElmKite x = told("twig b high 9 thick 9 side east ; " + ONE.replace("string a", "string b a")
+            + "run (tight = 0) * 10 ; tear (0 < tight) * 10 ; thing q worth 0 stuck 0 frees 10 ; ");
+        next(x, 2, 100000, 1);
+        x.hurl(0, FREES);
+        next(x, 1, 100000, 1);
+        x.undo();
+        x = told("twig b high 9 thick 9 side east ; " + ONE.replace("string a", "string b a")
+            + "run (tight = 0) * (away < 2) * 10 ; tear (0 < tight) * 10 ; thing q worth 0 stuck 5 frees 5 ; ");
+        x.pull(3, false, BITES);
+        next(x, 1, 0, 0);
+        next(x, 2, 50000, 11);
+        next(x, 3, 100000, 9);
+    }
+
     private static void nextSlack() {
         of("SLACK (if it is tight)");
         String text = ONE + "run (tight = 0) * (away < 2) * 10 ; tear 0 ; ";
@@ -193,8 +244,10 @@ public final class BoundsOfAnswersTest {
             x.pull(3, false, BITES);
         }
         next(x, 6, 0, 0);
-        // Loose it can't be slacker: nothing helps.
+        // Loose it can't be slacker: nothing helps, and none can be waited away.
         next(told(ONE + "run 0 ; tear 10 ;"), 6, 0, 0);
+        next(told(ONE + "run 0 ; tear 10 ; " + things(0, 10)), 2, 100000, 11);
+        next(told(ONE + "run 0 ; tear 10 ; wind east 0 0 ; lift 10 ;"), 2, 100000, 10);
     }
 
     private static void nextLift() {
@@ -207,6 +260,11 @@ public final class BoundsOfAnswersTest {
         next(told(text + "wind north 0 0 ; lift 10 ;"), 6, 0, 0);
         next(told(text + "wind south 0 0 ; lift 10 ;"), 6, 0, 0);
         next(told(text + "wind west 0 0 ; lift 10 ;"), 6, 0, 0);
+        // Where it can't, it isn't waited for, though nothing is lost by it.
+        String tearing = ONE + "run 0 ; tear 10 ; ";
+        next(told(tearing + "wind east 0 0 ; lift 0 ; " + things(0, 10)), 2, 100000, 11);
+        next(told(tearing + "wind north 0 0 ; lift 10 ; " + things(0, 10)), 2, 100000, 11);
+        next(told(tearing + "wind south 0 0 ; lift 10 ; " + things(0, 10)), 2, 100000, 11);
         // It doesn't turn by tries, whatever it does by hours.
         next(told(text + "wind north 10 0 ; lift 10 ;"), 6, 0, 0);
         next(told(text + "wind east 10 0 ; lift 5 ;"), 6, 98437, 10);
@@ -226,6 +284,13 @@ public final class BoundsOfAnswersTest {
         String two = "twig b high 9 thick 9 side north ; " + ONE.replace("string a", "string b a") + "run 0 ; tear 10 ; lift 10 ; ";
         next(told(two + "wind east 0 0 ;"), 2, 0, 0);
         next(told(two.replace("side north", "side east") + "wind east 0 0 ;"), 2, 100000, 10);
+        next(told(two + "wind north 0 0 ;"), 2, 0, 0);
+        String other = two.replace("thick 9 side north", "thick 5 side north").replace("run 0", "run (size = 5) * 10");
+        next(told(other + "wind east 0 0 ;"), 2, 100000, 10);
+        next(told(other + "wind north 0 0 ;"), 2, 0, 0);
+        other = two.replace("string b a", "string a b").replace("thick 9 side east", "thick 5 side east").replace("run 0", "run (size = 5) * 10");
+        next(told(other + "wind north 0 0 ;"), 2, 100000, 10);
+        next(told(other + "wind east 0 0 ;"), 2, 0, 0);
     }
 
     private static String things(int stuck, int... frees) {
@@ -252,6 +317,10 @@ public final class BoundsOfAnswersTest {
         // It sticks: it is gone for the try behind it. .5 + .2 * .5 + .3 * .5 with another one like it, else .5 + .2 * .5.
         next(told(text + things(3, 5)), 2, 60000, 11);
         next(told(text + things(3, 5, 5)), 2, 75000, 11);
+        // .1 of 100, .5 of 200, .4 of 100.
+        next(told(text + "thing p worth 0 stuck 1 frees 5 ; thing q worth 100 stuck 0 frees 0 ;"), 1, 150000, 11);
+        next(told(text + "thing p worth 0 stuck 5 frees 1 ; thing q worth 100 stuck 0 frees 0 ;"), 1, 110000, 11);
+        next(told(text + "thing p worth 0 stuck 9 frees 1 ; thing q worth 100 stuck 0 frees 0 ;"), 1, 110000, 11);
         // What is lost by sticking counts: 5 of ten at 100 against 5 of ten at 120.
         next(told(text + "thing p worth 100 stuck 5 frees 5 ;"), 1, 100000, 0);
         next(told(text + "thing p worth 99 stuck 5 frees 5 ;"), 1, 99500, 11);
@@ -419,8 +488,12 @@ public final class BoundsOfAnswersTest {
         // Products 5 and 1: from north 15 and 35, from east 25 and 25, from west 5 and 45.
         due("50 by each", x.tells(), 0);
         due("no TWIGS", new ElmKite().tells(), -1);
-        x.tell(1, true);
-        due("fits()", x.fits(), 3);
+        // Loose and soft: from north 0 and 10, elsewhere 5 and 5. By force, or tight, north would be the best.
+        x = told("twig a high 9 thick 9 side north ; twig b high 9 thick 1 side north ; string a b ; "
+            + "run (away = 0) * (force or tight) * (size = 9) * 10 + (away = 1) * 5 * (size = 9) + (away = 2) * 6 * (size = 9) ; ");
+        due("from across: 6 and 10 against 5 and 10", x.tells(), 2);
+        x.pull(0, true, BITES);
+        due("tight by hand", x.tells(), 2);
     }
 
     private static void tellsOfEqualOnes() {
@@ -790,6 +863,11 @@ public final class BoundsOfAnswersTest {
             due("nearest(" + from + ", " + from + ")", x.nearest(from, from), from < 8 ? 16 - 2 * from : 0);
             due("nearest(15, " + from + ")", x.nearest(15, from), Math.max(0, 8 - from));
         }
+        // Off the MAP is no place.
+        due("nearest(8, 15)", told("cord 15 ; elm 0 15 ; elm 0 14 ; ").nearest(8, 15), 2);
+        due("nearest(8, 0)", told("cord 15 ; elm 0 0 ; elm 0 1 ; ").nearest(8, 0), 2);
+        due("nearest(15, 8)", told("cord 15 ; elm 15 0 ; elm 14 0 ; ").nearest(15, 8), 2);
+        due("nearest(0, 8)", told("cord 15 ; elm 0 0 ; elm 1 0 ; ").nearest(0, 8), 2);
         // Both ways off: four across the middle.
         x = told("cord 15 ; elm 6 6 ; elm 7 7 ; elm 8 8 ; elm 9 9 ;");
         due("nearest(7, 7)", x.nearest(7, 7), 4);
@@ -825,6 +903,20 @@ public final class BoundsOfAnswersTest {
         for (int thing = 0; thing < 4; thing++) {
             due("the first place of " + thing, x.came(thing, 0), first[thing]);
             due("the last place of " + thing, x.came(thing, 1), last[thing]);
+        }
+    }
+
+    private static void cameOfThisTree() {
+        of("CAME: rows of all THINGS");
+        int[] rows = {1, 1, 2, 6, 24};
+        ElmKite x = told(things(1, 0, 0, 0, 0));
+        for (int many = 4; many >= 0; many--) {
+            for (int thing = 0; thing < many; thing++) {
+                due(many + " THINGS: the last place", x.came(thing, 1), many - 1);
+                due(many + " THINGS: the first place", x.came(thing, 0), 0);
+            }
+            due(many + " THINGS: rows", x.came(-1, 1), rows[many]);
+            due("a TREE of one less", Feeding.tree(x, things(1, new int[Math.max(0, many - 1)])), 0);
         }
     }
 
@@ -918,6 +1010,71 @@ public final class BoundsOfAnswersTest {
                 due(law + ": torn", x.afternoons(seed, 20, 6, 1), torn);
                 due(law + ": THINGS", x.afternoons(seed, 20, 6, 2), 0);
             }
+        }
+    }
+
+    private static void drawsOfHardPulls() {
+        of("each time the NEXT try (with so many yet ..)");
+        for (int side = 0; side < 4; side++) {
+            ElmKite x = told(ONE.replace("side east", "side " + SIDES[side])
+                + "run (away = 0) * (2 + 4 * force) ; tear (away = 0) * 3 + (0 < away) * 10 ;");
+            due("hard from " + SIDES[side], x.next(1, 1), 5 + side);
+            for (int seed : SEEDS) {
+                ByHand hand = new ByHand(seed);
+                int down = 0;
+                int torn = 0;
+                for (int i = 0; i < 20; i++) {
+                    for (int yet = 4; yet > 0; yet--) {
+                        if (hand.below(10) < 6) {
+                            down++;
+                            break;
+                        }
+                        if (hand.below(10) < 3) {
+                            torn++;
+                            break;
+                        }
+                    }
+                }
+                due("hard from " + SIDES[side] + ", SEED " + seed, x.afternoons(seed, 20, 4, 0), 100 * down);
+                due("hard from " + SIDES[side] + ", SEED " + seed + ", torn", x.afternoons(seed, 20, 4, 1), torn);
+            }
+        }
+        // It bites: 2 tighter, and so 9 of ten the next time.
+        ElmKite x = told(ONE + "run (tight = 2) * 9 ; tear 0 ;");
+        due("hard from north", x.next(2, 1), 5);
+        for (int seed : SEEDS) {
+            ByHand hand = new ByHand(seed);
+            int down = 0;
+            for (int i = 0; i < 20; i++) {
+                hand.below(10);
+                hand.below(10);
+                if (hand.below(10) < 9) {
+                    down++;
+                } else {
+                    hand.below(10);
+                }
+            }
+            due("2 tighter, SEED " + seed, x.afternoons(seed, 20, 2, 0), 100 * down);
+        }
+    }
+
+    private static void drawsBehindSlack() {
+        of("each time the NEXT try (with so many yet ..)");
+        ElmKite x = told(ONE + "run (tight = 0) * (away < 2) * 6 ; tear (0 < tight) * 10 ; ");
+        x.pull(3, false, BITES);
+        due("SLACK", x.next(2, 1), 9);
+        due("one try: none", x.afternoons(3, 20, 1, 0), 0);
+        for (int seed : SEEDS) {
+            ByHand hand = new ByHand(seed);
+            int down = 0;
+            for (int i = 0; i < 20; i++) {
+                if (hand.below(10) < 6) {
+                    down++;
+                } else {
+                    hand.below(10);
+                }
+            }
+            due("SLACK draws nothing, SEED " + seed, x.afternoons(seed, 20, 2, 0), 100 * down);
         }
     }
 
@@ -1072,6 +1229,27 @@ public final class BoundsOfAnswersTest {
         x.mark(1, true);
         due("torn on 1", x.count(5), 2);
         due("torn on 1: over none", x.count(2), 0);
+        of("MARKS .. hold .. what is TOLD");
+        for (int side = 0; side < 4; side++) {
+            for (int ran = 0; ran < 2; ran++) {
+                for (int many = 0; many <= 12; many += 3) {
+                    x = told("twig a high 9 thick 9 side east ; twig b high 9 thick 9 side west ; run 6 - 2 * away ;");
+                    ElmKite y = told("twig a high 9 thick 9 side east ; twig b high 9 thick 9 side west ; run 6 - 2 * away ;");
+                    for (int i = 0; i < many; i++) {
+                        x.tell(side, ran == 1);
+                        y.tell(side, ran == 1);
+                    }
+                    x.mark(2, false);
+                    x.tell((side + 1) % 4, ran == 0);
+                    x.mark(2, true);
+                    due("count(9)", x.count(9), many);
+                    due("likely(0)", x.likely(0), y.likely(0));
+                    due("likely(1)", x.likely(1), y.likely(1));
+                    due("tells()", x.tells(), y.tells());
+                    due("one more", x.tell(side, ran == 1), many < 12);
+                }
+            }
+        }
     }
 
     private static void marksFour() {

@@ -55,6 +55,7 @@ public final class BoundsOfTextTest {
         lawsTests();
         lawsDepth();
         lawsFacts();
+        lawsOfEachTwig();
         lawsTruth();
         lawsWrap();
         withoutRun();
@@ -64,6 +65,7 @@ public final class BoundsOfTextTest {
         faultLeast();
         faultKinds();
         treeFromThenOn();
+        treeAfterTree();
         treeUpOrDown();
         faultAllStays();
         afternoonFromThenOn();
@@ -861,6 +863,33 @@ public final class BoundsOfTextTest {
         fault(1, "run ^sizes ;");
     }
 
+    /** Each TWIG, each tightness, each force has its own. */
+    private static void lawsOfEachTwig() {
+        of("Facts: tight (of the last TWIG), size (how thick it is)");
+        StringBuilder eight = new StringBuilder();
+        for (int i = 0; i < 8; i++) {
+            eight.append("twig ").append((char) ('a' + i)).append(" high 9 thick ").append(i + 1).append(" side west ; ");
+        }
+        for (int twig = 0; twig < 8; twig++) {
+            String law = "(tight < 9) * size + (tight = 9) * (9 - size) + force * (away = 1)";
+            String string = "string " + (char) ('a' + twig) + " ; ";
+            ElmKite x = told(eight + string + "tear 0 ; run " + law + " ; ");
+            ElmKite y = told(eight + string + "run 0 ; tear " + law + " ; ");
+            for (int tight = 0; tight <= 9; tight++) {
+                int due = tight < 9 ? twig + 1 : 8 - twig;
+                for (int side = 0; side < 4; side++) {
+                    int hard = due + (side % 2 == 0 ? 1 : 0);
+                    due("run, TWIG " + twig + ", tight " + tight, x.chance(side, false, 0), due);
+                    due("run, TWIG " + twig + ", tight " + tight + ", hard", x.chance(side, true, 0), hard);
+                    due("tear, TWIG " + twig + ", tight " + tight, y.chance(side, false, 1), due);
+                    due("tear, TWIG " + twig + ", tight " + tight + ", hard", y.chance(side, true, 1), hard);
+                }
+                x.pull(3, false, 1);
+                y.pull(3, false, 1);
+            }
+        }
+    }
+
     private static void lawsTruth() {
         of("Of not, and, or, < and = comes 1 or 0; what is not 0 is so");
         law("not 0", 1);
@@ -1041,6 +1070,55 @@ public final class BoundsOfTextTest {
         due("of nothing: judged(0)", x.judged(0), -1);
         due("of nothing: came(-1, 0)", x.came(-1, 0), 1);
         due("of nothing: places(-1)", x.places(-1), 256);
+    }
+
+    /** Nothing of the ones ahead is left, however many there were. */
+    private static void treeAfterTree() {
+        of("Without a FAULT a TREE is the TREE from then on");
+        String all = twigs(8).replace("thick 9", "thick 20") + things(4) + "over p q ; over q r ; string a b c d e f ; kite worth 50 paper 30 ; wind west 3 3 ; "
+            + "lift 4 ; dew 5 ; ladder 60 pole 60 ; weighs 2 ; cord 9 ; run 9 ; tear 9 ; " + elms(7);
+        String one = A + "string a ; kite worth 1 paper 7 ; ";
+        ElmKite x = told(all);
+        due("of all: chance(3, false, 0)", x.chance(3, false, 0), 9);
+        for (int again = 0; again < 4; again++) {
+            due("of one", Feeding.tree(x, one), 0);
+            int[] counts = {1, 0, 1, 12, 0, 0, 7, 0, 0, 0, 0, 0, 0};
+            for (int what = 0; what < counts.length; what++) {
+                due("of one: count(" + what + ")", x.count(what), counts[what]);
+            }
+            int[] runs = {3, 10, 3, 0};
+            for (int side = 0; side < 4; side++) {
+                due("of one: run is not told", x.chance(side, false, 0), runs[side]);
+                due("of one: tear is not told", x.chance(side, true, 1), 2);
+            }
+            for (int twig = 1; twig < 8; twig++) {
+                due("of one: twig(" + twig + ", 0)", x.twig(twig, 0), -1);
+                due("of one: far(" + twig + ")", x.far(twig), -1);
+                due("of one: minutes(" + twig + ")", x.minutes(twig), -1);
+                due("of one: climb(" + twig + ", true)", x.climb(twig, true), false);
+            }
+            due("of one: thing(0, 0)", x.thing(0, 0), -1);
+            due("of one: fits()", x.fits(), 1);
+            due("of one: lift 0, waits", x.waits(1, 48), 0);
+            due("of one: dew 0", x.lasts(), -1);
+            due("of one: ladder 0, pole 0, weighs 10", x.minutes(0), -1);
+            due("of one: weighs 10", x.far(0), -1);
+            due("of one: cord 5, no elm", x.places(-1), 256);
+            due("of one: came(-1, 0)", x.came(-1, 0), 1);
+            x.hour(1);
+            due("of one: lift 0", x.lifts(), false);
+            due("of two THINGS", Feeding.tree(x, things(2) + "elm 0 0 ; " + A + B + "string b ; wind south 0 0 ; "), 0);
+            due("of two THINGS: worth()", x.worth(), 3);
+            due("of two THINGS: came(-1, 0)", x.came(-1, 0), 2);
+            due("of two THINGS: came(1, 0)", x.came(1, 0), 0);
+            due("of two THINGS: came(0, 1)", x.came(0, 1), 1);
+            due("of two THINGS: cord 5", x.places(0), 255);
+            due("of two THINGS: count(7)", x.count(7), 1);
+            due("of two THINGS: count(6)", x.count(6), 9);
+            due("of two THINGS: lift 0", x.lifts(), false);
+            due("of all", Feeding.tree(x, all), 0);
+            due("of all: came(3, 1)", x.came(3, 1), 3);
+        }
     }
 
     private static void treeUpOrDown() {

@@ -48,6 +48,7 @@ public final class BoundsOfTriesTest {
         judgedLines();
         judgedFromHourTwelve();
         judgedLeftOut();
+        judgedSoftAndHard();
         CHECKS.end("BoundsOfTriesTest");
     }
 
@@ -624,6 +625,15 @@ public final class BoundsOfTriesTest {
         ahead = standing(x);
         due("lifts()", x.lifts(), true);
         undoneAgain("it lifts", x, ahead, 4);
+        hours(x, 9);
+        due("two hours of dew", x.count(6), 7);
+        for (int paper = 8; paper <= 9; paper++) {
+            due("undo()", x.undo(), true);
+            due("the paper is as ahead", x.count(6), paper);
+        }
+        for (int i = 0; i < 7; i++) {
+            x.undo();
+        }
         due("what can't be is none", x.slack(), -1);
         due("what can't be is none", x.hour(4), -1);
         due("count(10)", x.count(10), 3);
@@ -688,5 +698,33 @@ public final class BoundsOfTriesTest {
         Feeding.afternoon(x, "climb a ; poke b ; lifts ; pull east hard bites ; hurl p sticks ;");
         due("only the last one can: judged(0)", x.judged(0), 0);
         due("only the last one can: judged(1)", x.judged(1), 0);
+    }
+
+    private static void judgedSoftAndHard() {
+        of("JUDGED: the AFTERNOON ..: the first line (from 0) that can't be");
+        ElmKite x = told(ONE + "run (tight = 2) * 5 ; tear force * 10 ; kite worth 50 paper 2 ; ");
+        Feeding.afternoon(x, "pull west hard tears ;");
+        due("hard tears", x.judged(0), -1);
+        Feeding.afternoon(x, "pull west soft tears ;");
+        due("soft tears", x.judged(0), 0);
+        Feeding.afternoon(x, "pull west soft bites ; pull west soft bites ; pull west hard runs ;");
+        due("1 and 1 tighter", x.judged(1), 50);
+        Feeding.afternoon(x, "pull west soft bites ; pull west soft runs ;");
+        due("1 tighter", x.judged(0), 1);
+        x = told(ONE + "run (tight = 2) * 5 ; tear 0 ; kite worth 50 paper 2 ; ");
+        Feeding.afternoon(x, "pull west hard bites ; pull west soft runs ;");
+        due("2 tighter", x.judged(0), -1);
+        Feeding.afternoon(x, "pull west hard bites ; slack ; pull west soft runs ;");
+        due("2 tighter, 1 looser", x.judged(0), 2);
+        Feeding.afternoon(x, "pull west hard bites ; slack ; pull west soft bites ; pull west soft runs ;");
+        due("2 tighter, 1 looser, 1 tighter", x.judged(1), 50);
+        // From each side.
+        for (int side = 0; side < 4; side++) {
+            x = told(ONE.replace("side east", "side " + SIDES[side]) + "run (away = 0) * 5 ; tear 0 ; ");
+            for (int from = 0; from < 4; from++) {
+                Feeding.afternoon(x, "pull " + SIDES[from] + " soft runs ;");
+                due("from " + SIDES[from] + " off " + SIDES[side], x.judged(0), from == side ? -1 : 0);
+            }
+        }
     }
 }
