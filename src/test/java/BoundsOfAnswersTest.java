@@ -736,6 +736,10 @@ public final class BoundsOfAnswersTest {
             }
         }
         due("weighs 99", told("twig a high 1 thick 20 side east ; weighs 99 ;").far(0), -1);
+        // Its own thickness, whatever it is on.
+        ElmKite x = told("twig a high 1 thick 9 side east ; twig b high 1 thick 20 side east on a ; ");
+        due("what it is on: far(0)", x.far(0), -1);
+        due("on a thin one: far(1)", x.far(1), 10);
     }
 
     private static String minutesTree(int high, int thick, int ladder, int pole) {
